@@ -4,6 +4,7 @@ public final class EnvelopeTest {
         empty();
         crossing();
         equalValues();
+        shortPieces();
         gaps();
         manyPieces();
         sums();
@@ -59,6 +60,20 @@ public final class EnvelopeTest {
         pieces(y, 0, new int[][] {{0, 3, 1}, {4, 8, 0}, {9, 255, 1}});
     }
 
+    /** A piece of one position, a turn at the last common position, and one right after it. */
+    private static void shortPieces() {
+        SegmentTimes x = new SegmentTimes();
+        x.add(10, 0, 0, 30);
+        x.add(-10, 5, 0, 20);
+        x.add(-10, 5 + 19, 0, 3);
+        pieces(x, 0, new int[][] {{0, 0, 0}, {1, 20, 1}, {21, 30, 0}, {31, 255, -1}});
+        SegmentTimes y = new SegmentTimes();
+        y.add(0, 0, 0, 255);
+        y.add(-1, 9, 0, 10);
+        y.add(-1, 20, 0, 20);
+        pieces(y, 0, new int[][] {{0, 9, 0}, {10, 10, 1}, {11, 255, 0}});
+    }
+
     private static void gaps() {
         SegmentTimes x = new SegmentTimes();
         x.addThrough(255, 1, 255, 1, 0, 2);
@@ -106,6 +121,7 @@ public final class EnvelopeTest {
         y.add(1000, 1000000, 0, 255);
         Due.is("the greatest sum", y.sum(0, 0, 255), 256000000L + 1000L * 32640);
         Due.is("sum at the edge", y.sum(0, 255, 255), 1255000);
+        Due.is("sum at the other edge", y.sum(0, 0, 0), 1000000);
     }
 
     private static void visibleAndHidden() {
@@ -131,6 +147,8 @@ public final class EnvelopeTest {
         Due.is("a point", x.visible(5, 0), 1);
         x.add(0, -200, 26, 26);
         Due.is("a point under it", x.hidden(0), 2);
+        x.add(0, -300, 0, 255);
+        Due.is("one under all, so that the first segment is hidden too", x.hidden(0), 5);
     }
 
     private static void extremes() {
@@ -157,6 +175,10 @@ public final class EnvelopeTest {
         Due.is("smallest of a falling one", y.extreme(0, false), 9);
         Due.is("greatest of a falling one", y.extreme(0, true), 7);
         Due.is("extreme(16384)", y.extreme(16384, true), -1);
+        y.add(5, 0, 0, 4);
+        Due.is("greatest in the first piece", y.extreme(0, true), 4);
+        y.add(0, -50, 0, 1);
+        Due.is("smallest in the first piece", y.extreme(0, false), 0);
     }
 
     private static void refusals() {

@@ -5,6 +5,7 @@ public final class MarksTest {
         stack();
         queriesStay();
         undoable();
+        markComesBack();
         Due.finish();
     }
 
@@ -94,5 +95,32 @@ public final class MarksTest {
         Due.is("the tick of the second", x.now(), 5);
         Due.is("the other one", x.rollBack(), 0);
         Due.is("the tick of the first", x.now(), 0);
+    }
+
+    /** A mark that was rolled back and set anew elsewhere comes back by undo() as it was. */
+    private static void markComesBack() {
+        SegmentTimes x = new SegmentTimes();
+        x.mark();
+        x.pass(1);
+        x.mark();
+        x.pass(10);
+        x.rollBack();
+        x.add(1, 1, 1, 1);
+        x.mark();
+        x.undo();
+        x.undo();
+        Due.is("undo() of rollBack", x.undo(), 1);
+        Due.is("now() then", x.now(), 11);
+        Due.is("the second mark is back", x.rollBack(), 1);
+        Due.is("its tick", x.now(), 1);
+        Due.is("its segments", x.segments(), 0);
+        x.rollBack();
+        x.pass(500);
+        x.mark();
+        x.undo();
+        x.undo();
+        Due.is("undo() of the other rollBack", x.undo(), 1);
+        Due.is("the first mark is back", x.rollBack(), 0);
+        Due.is("its tick", x.now(), 0);
     }
 }

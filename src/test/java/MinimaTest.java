@@ -49,6 +49,9 @@ public final class MinimaTest {
         x.addThrough(15, 5, 15, 5, 12, 13);
         Due.is("a third equal one", x.ranked(15, 12, 2), 3);
         Due.is("after the equal ones", x.ranked(15, 12, 3), 0);
+        x.addThrough(15, 4, 15, 4, 12, 13);
+        Due.is("lower by 1, with a greater number", x.ranked(15, 12, 0), 4);
+        Due.is("the one above it", x.ranked(15, 12, 1), 1);
         Due.refused("ranked with place -1", x, Due.ARGUMENT, () -> x.ranked(0, 0, -1));
         Due.refused("ranked with least place", x, Due.ARGUMENT, () -> x.ranked(0, 0, Integer.MIN_VALUE));
         wrongPlaces(x, 1);
@@ -102,8 +105,12 @@ public final class MinimaTest {
         Due.is("whatever the lives, after the end", x.overtakes(0, 1), 11);
         x.addThrough(25, 3, 50, -22, 9, 9);
         Due.is("a life without ticks", x.overtakes(3, 5), 29);
-        Due.refused("overtakes(0, 6)", x, Due.INDEX, () -> x.overtakes(0, 6));
-        Due.refused("overtakes(6, 0)", x, Due.INDEX, () -> x.overtakes(6, 0));
+        x.addThrough(20, 9, 29, 0, 0, 0);
+        Due.is("equal at the last common position", x.overtakes(3, 6), -1);
+        x.addThrough(20, 8, 29, -1, 0, 0);
+        Due.is("below at the last common position", x.overtakes(3, 7), 29);
+        Due.refused("overtakes(0, 8)", x, Due.INDEX, () -> x.overtakes(0, 8));
+        Due.refused("overtakes(8, 0)", x, Due.INDEX, () -> x.overtakes(8, 0));
         Due.refused("overtakes(-1, 0)", x, Due.INDEX, () -> x.overtakes(-1, 0));
         Due.refused("overtakes(0, -1)", x, Due.INDEX, () -> x.overtakes(0, -1));
     }

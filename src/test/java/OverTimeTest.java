@@ -102,6 +102,9 @@ public final class OverTimeTest {
         Due.is("without a life", x.leads(5, 10), 0);
         Due.is("elsewhere", x.leads(0, 9), 15);
         Due.is("out of all ranges", x.leads(0, 21), 0);
+        Due.is("at position 0", x.leads(0, 0), 15);
+        x.addThrough(255, 0, 255, 0, 7, 11);
+        Due.is("at position 255", x.leads(6, 255), 4);
     }
 
     /** 40 lives with 80 different starts and ends, tick by tick. */

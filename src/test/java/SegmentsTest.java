@@ -12,7 +12,34 @@ public final class SegmentsTest {
         pass();
         nowAndSegments();
         segment();
+        takenBack();
         Due.finish();
+    }
+
+    /** A number that was given and taken back by undo() is no segment's number any more. */
+    private static void takenBack() {
+        SegmentTimes x = new SegmentTimes();
+        x.add(0, 0, 0, 255);
+        x.add(0, 0, 0, 255);
+        x.undo();
+        Due.refused("end(1)", x, Due.INDEX, () -> x.end(1));
+        Due.refused("lift(1, 0)", x, Due.INDEX, () -> x.lift(1, 0));
+        Due.refused("segment(1, 0)", x, Due.INDEX, () -> x.segment(1, 0));
+        Due.refused("overtakes(0, 1)", x, Due.INDEX, () -> x.overtakes(0, 1));
+        Due.refused("overtakes(1, 0)", x, Due.INDEX, () -> x.overtakes(1, 0));
+        Due.refused("visible(1, 0)", x, Due.INDEX, () -> x.visible(1, 0));
+        Due.refused("leads(1, 0)", x, Due.INDEX, () -> x.leads(1, 0));
+        Due.refused("intervals(1)", x, Due.INDEX, () -> x.intervals(1));
+        Due.refused("interval(1, 0, true)", x, Due.INDEX, () -> x.interval(1, 0, true));
+        Due.is("holders(0, 16384)", x.holders(0, 16384), 1);
+        Due.is("ranked(0, 0, 1)", x.ranked(0, 0, 1), -1);
+        Due.is("hidden(0)", x.hidden(0), 0);
+        x.add(0, -5, 3, 9);
+        x.undo();
+        Due.is("ranked(5, 0, 0)", x.ranked(5, 0, 0), 0);
+        Due.is("pieces(0)", x.pieces(0), 1);
+        Due.is("below(5, 0, 1)", x.below(5, 0, 1), 1);
+        Due.is("changes(5, 0, 16384)", x.changes(5, 0, 16384), 1);
     }
 
     private static void newObject() {

@@ -2,6 +2,7 @@
 public final class StateTest {
     public static void main(String[] args) {
         fourStates();
+        failuresDropNothing();
         everything();
         notUndoable();
         digestOfAll();
@@ -27,6 +28,25 @@ public final class StateTest {
             x.pass(100);
             Due.is("undo() of 100", x.undo(), Math.min(round + 1, 3));
             Due.is("now()", x.now(), 3 + round * (round + 1) / 2);
+        }
+    }
+
+    /** Calls and texts that fail drop no saved state. */
+    private static void failuresDropNothing() {
+        SegmentTimes x = new SegmentTimes();
+        for (int i = 1; i <= 6; i++) {
+            x.pass(i);
+        }
+        Due.refused("a refused call", x, Due.ARGUMENT, () -> x.pass(-1));
+        Due.write(x, "t 7;a 0 0 0 0;e 5;");
+        Due.is("a failing text", x.carryOut(), -1002);
+        Due.write(x, "t");
+        Due.is("a wrong text", x.carryOut(), -11);
+        int[] due = {15, 10, 6, 3};
+        for (int i = 0; i < 4; i++) {
+            Due.is("undo()", x.undo(), 3 - i);
+            Due.is("now()", x.now(), due[i]);
+            Due.is("segments()", x.segments(), 0);
         }
     }
 
