@@ -25,6 +25,12 @@ final class Due {
     /** The call must throw exactly this class, and leave the digest as it is. */
     static void refused(String call, SegmentTimes x, Class<? extends RuntimeException> due, Call run) {
         long before = x.digest();
+        thrown(call, due, run);
+        is("digest() after " + call, x.digest(), before);
+    }
+
+    /** The call must throw exactly this class, or nothing if this is null. */
+    static void thrown(String call, Class<? extends RuntimeException> due, Call run) {
         Class<?> thrown = null;
         try {
             run.run();
@@ -36,7 +42,6 @@ final class Due {
             wrong++;
             System.out.println(call + " threw " + thrown + ", due is " + due);
         }
-        is("digest() after " + call, x.digest(), before);
     }
 
     /** Puts a text in the place of the script text. */

@@ -115,25 +115,31 @@ public final class MinimaTest {
         Due.refused("overtakes(0, -1)", x, Due.INDEX, () -> x.overtakes(0, -1));
     }
 
-    /** All pairs of some lines, position by position. */
+    /** All pairs of some lines, position by position; an object for each first line keeps within its calls. */
     private static void overtakesAsTold() {
-        SegmentTimes x = new SegmentTimes();
         int[] slopes = {-1000, -7, -3, -1, 0, 1, 2, 5, 1000};
+        int[][] lines = new int[36][];
         for (int i = 0; i < 36; i++) {
-            x.add(slopes[i % 9], (i * 37) % 50 - 25, (i * 11) % 60, 60 + i % 4);
+            lines[i] = new int[] {slopes[i % 9], (i * 37) % 50 - 25, (i * 11) % 60, 60 + i % 4};
         }
         for (int first = 0; first < 36; first++) {
+            SegmentTimes x = new SegmentTimes();
+            for (int[] line : lines) {
+                x.add(line[0], line[1], line[2], line[3]);
+            }
             for (int second = 0; second < 36; second++) {
-                int due = -1;
-                for (int p = 255; p >= 0; p--) {
-                    boolean common = p >= x.segment(first, 2) && p <= x.segment(first, 3)
-                            && p >= x.segment(second, 2) && p <= x.segment(second, 3);
-                    int one = x.segment(first, 0) * p + x.segment(first, 1);
-                    int other = x.segment(second, 0) * p + x.segment(second, 1);
-                    due = common && other < one ? p : due;
-                }
-                Due.is("overtakes(" + first + ", " + second + ")", x.overtakes(first, second), due);
+                Due.is("overtakes(" + first + ", " + second + ")", x.overtakes(first, second),
+                        overtaking(lines[first], lines[second]));
             }
         }
+    }
+
+    private static int overtaking(int[] first, int[] second) {
+        for (int p = Math.max(first[2], second[2]); p <= Math.min(first[3], second[3]); p++) {
+            if (second[0] * p + second[1] < first[0] * p + first[1]) {
+                return p;
+            }
+        }
+        return -1;
     }
 }

@@ -2,9 +2,10 @@ import java.util.Random;
 
 /** Long mixed runs of calls, each answer and digest compared with those of PlainTimes. */
 public final class ModelTest {
-    private static final int RUNS = 60;
+    private static final int RUNS = 300;
     private static final int CALLS = 512;
     private static final int SLOW = 12;
+    private static final int CHANGES = 45;
 
     private interface Call {
         long run(SegmentTimes x);
@@ -20,18 +21,22 @@ public final class ModelTest {
     private final String run;
     // how wild the arguments are: small values meet each other often, great ones reach the limits
     private final int reach;
+    // a script takes many calls, so most runs hold few of them
+    private final int scripts;
+    private int calls = 0;
 
     private ModelTest(int seed) {
         random = new Random(seed);
         run = "run " + seed + " ";
         int[] reaches = {3, 20, 255, 1000, 16384};
         reach = reaches[seed % reaches.length];
+        scripts = seed % 3 == 0 ? 20 : 1;
     }
 
     public static void main(String[] args) {
         for (int seed = 0; seed < RUNS; seed++) {
             ModelTest test = new ModelTest(seed);
-            for (int i = 0; i < CALLS; i++) {
+            while (test.calls < CALLS) {
                 test.step();
             }
         }
@@ -40,16 +45,18 @@ public final class ModelTest {
 
     private void step() {
         int kind = random.nextInt(100);
-        if (kind < 40) {
-            change(random.nextInt(12));
-        } else if (kind < 60) {
-            script();
+        if (kind < CHANGES + scripts) {
+            if (kind < CHANGES) {
+                change(random.nextInt(12));
+            } else {
+                script();
+            }
+            both("digest()", s -> s.digest(), p -> p.digest());
         } else if (kind < 100 - SLOW) {
             ask(random.nextInt(16));
         } else {
             askOverTime(random.nextInt(4));
         }
-        both("digest()", s -> s.digest(), p -> p.digest());
     }
 
     private int upTo(int most) {
@@ -78,7 +85,7 @@ public final class ModelTest {
     }
 
     private int number() {
-        int size = x.segments();
+        int size = plain.segments();
         return size == 0 || random.nextInt(20) == 0 ? upTo(40) : random.nextInt(size);
     }
 
@@ -247,6 +254,10 @@ public final class ModelTest {
     }
 
     private void both(String call, Call real, PlainCall due) {
+        if (calls >= CALLS) {
+            return;
+        }
+        calls++;
         long want = 0;
         Class<?> wantThrown = null;
         try {

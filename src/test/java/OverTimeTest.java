@@ -107,22 +107,33 @@ public final class OverTimeTest {
         Due.is("at position 255", x.leads(6, 255), 4);
     }
 
-    /** 40 lives with 80 different starts and ends, tick by tick. */
-    private static void manyTurns() {
+    private static SegmentTimes turning() {
         SegmentTimes x = new SegmentTimes();
         for (int i = 0; i < 40; i++) {
             int height = (i * 7) % 40;
             x.addThrough(9, height, 9, height, 100 * i + i, 16384 - 90 * i - 2 * i);
         }
+        return x;
+    }
+
+    /** 40 lives with 80 different starts and ends, tick by tick; an object answers 400 ticks of them. */
+    private static void manyTurns() {
+        SegmentTimes x = turning();
         int count = 0;
+        int before = -1;
         int[] led = new int[40];
         for (int t = 0; t <= 16384; t++) {
+            if (t % 400 == 399) {
+                x = turning();
+            }
             int first = x.ranked(9, t, 0);
-            count += t > 0 && first != x.ranked(9, t - 1, 0) ? 1 : 0;
+            count += t > 0 && first != before ? 1 : 0;
             if (first >= 0) {
                 led[first]++;
             }
+            before = first;
         }
+        x = turning();
         Due.is("changes with many turns", x.changes(9, 0, 16384), count);
         for (int i = 0; i < 40; i++) {
             Due.is("leads(" + i + ", 9) with many turns", x.leads(i, 9), led[i]);

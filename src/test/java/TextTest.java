@@ -3,7 +3,6 @@ public final class TextTest {
     public static void main(String[] args) {
         appendAndClear();
         syntax();
-        eachByteInEachPlace();
         commands();
         failing();
         allOrNothing();
@@ -52,27 +51,6 @@ public final class TextTest {
             Due.is("digest() after it", x.digest(), before);
         }
         Due.is("saved states", x.undo(), 0);
-    }
-
-    /** Of all bytes, the right ones alone can stand in each place of a text. */
-    private static void eachByteInEachPlace() {
-        String[] starts = {"", "a", "a ", "a -", "a 1", "a 1 2 3", "a 1 2 3 ", "a 1 2 3 4", "s", "s;", "e", "e 1", "m 1",
-            "m 1 1", "q 1 1234567", "q 1234567", "t -1234567"};
-        String digits = "0123456789";
-        String[] due = {"aetmqs", " ", digits + "-", digits, digits + " ", digits + " ", digits + "-", digits + ";", ";",
-            "aetmqs", " ", digits + ";", digits + " ", digits + ";", ";", " ", ";"};
-        for (int i = 0; i < starts.length; i++) {
-            for (int value = 0; value <= 127; value++) {
-                SegmentTimes x = new SegmentTimes();
-                Due.write(x, starts[i]);
-                x.append(value);
-                int got = x.carryOut();
-                boolean refused = got == -10 - starts[i].length();
-                // a text that is right up to its end is no case of a refused byte: its error is one further on
-                Due.is("byte " + value + " after \"" + starts[i] + "\"", refused ? 0 : 1,
-                        due[i].indexOf(value) >= 0 ? 1 : 0);
-            }
-        }
     }
 
     private static void commands() {
