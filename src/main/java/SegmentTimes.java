@@ -125,7 +125,9 @@ public final class SegmentTimes {
     /** Returns the segment at a place of the ranking at a position and a tick, or NONE. */
     public int ranked(int x, int t, int place) throws IllegalArgumentException {
         requirePlace(x, t);
-        requireBetween(place, 0, Integer.MAX_VALUE);
+        if (place < 0) {
+            throw new IllegalArgumentException("the place is negative");
+        }
         return state.store.atPlace(x, t, place);
     }
 

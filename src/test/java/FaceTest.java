@@ -8,19 +8,21 @@ import java.util.TreeSet;
 
 /** The face of the class is the document's one, with nothing more and nothing less. */
 public final class FaceTest {
+    /** Behind each method what it throws, in the order of the document: A, I and S, as letter() has them. */
     private static final String[] METHODS = {
-        "int add(int,int,int,int)", "int addThrough(int,int,int,int,int,int)", "int end(int)", "int lift(int,int)",
-        "int pass(int)", "int now()", "int segments()", "int segment(int,int)", "long minimum(int,int)",
-        "int ranked(int,int,int)", "int below(int,int,long)", "int overtakes(int,int)", "int pieces(int)",
-        "int piece(int,int,int)", "long sum(int,int,int)", "int visible(int,int)", "int hidden(int)",
-        "int extreme(int,boolean)", "int changes(int,int,int)", "int nextChange(int,int)",
-        "long overTime(int,int,int,boolean)", "int leads(int,int)", "int intervals(int)",
-        "int interval(int,int,boolean)", "int holders(int,int)", "int collect(int,int)", "int solve()",
-        "long answer(int,int)", "int forget()", "int mark()", "int rollBack()", "int append(int)",
-        "int clearText()", "int carryOut()", "int undo()", "long digest()",
+        "int add(int,int,int,int) AS", "int addThrough(int,int,int,int,int,int) AS", "int end(int) IS",
+        "int lift(int,int) IAS", "int pass(int) AS", "int now()", "int segments()", "int segment(int,int) IA",
+        "long minimum(int,int) A", "int ranked(int,int,int) A", "int below(int,int,long) A",
+        "int overtakes(int,int) I", "int pieces(int) A", "int piece(int,int,int) AI", "long sum(int,int,int) A",
+        "int visible(int,int) IA", "int hidden(int) A", "int extreme(int,boolean) A", "int changes(int,int,int) A",
+        "int nextChange(int,int) A", "long overTime(int,int,int,boolean) A", "int leads(int,int) IA",
+        "int intervals(int) I", "int interval(int,int,boolean) I", "int holders(int,int) A",
+        "int collect(int,int) AS", "int solve()", "long answer(int,int) IAS", "int forget()", "int mark() S",
+        "int rollBack() S", "int append(int) AS", "int clearText()", "int carryOut()", "int undo() S",
+        "long digest()",
     };
 
-    public static void main(String[] args) {
+    public static void main(String[] args) throws NoSuchFieldException {
         Class<?> face = SegmentTimes.class;
         Due.is("the class is public and final", face.getModifiers(), Modifier.PUBLIC | Modifier.FINAL);
         Set<String> found = new TreeSet<>();
@@ -50,9 +52,12 @@ public final class FaceTest {
         }
         Due.is("open fields", open, 1);
         Due.is("NONE", SegmentTimes.NONE, -1);
+        Due.is("its type is int", face.getDeclaredField("NONE").getType() == int.class ? 1 : 0, 1);
         Constructor<?>[] constructors = face.getDeclaredConstructors();
         Due.is("constructors", constructors.length, 1);
+        Due.is("it is public", constructors[0].getModifiers(), Modifier.PUBLIC);
         Due.is("its parameters", constructors[0].getParameterCount(), 0);
+        Due.is("its exceptions", constructors[0].getExceptionTypes().length, 0);
         for (Class<?> inside : face.getDeclaredClasses()) {
             Due.is("static and not public: " + inside, inside.getModifiers()
                     & (Modifier.STATIC | Modifier.PUBLIC | Modifier.PROTECTED), Modifier.STATIC);
@@ -80,6 +85,22 @@ public final class FaceTest {
             text.append(comma).append(parameter);
             comma = ",";
         }
-        return text.append(')').toString();
+        text.append(')');
+        String blank = " ";
+        for (Class<?> thrown : method.getExceptionTypes()) {
+            text.append(blank).append(letter(thrown));
+            blank = "";
+        }
+        return text.toString();
+    }
+
+    private static String letter(Class<?> thrown) {
+        if (thrown == Due.ARGUMENT) {
+            return "A";
+        }
+        if (thrown == Due.INDEX) {
+            return "I";
+        }
+        return thrown == Due.STATE ? "S" : thrown.getName();
     }
 }

@@ -19,6 +19,7 @@ public final class StateEdgesTest {
         overflowIsIgnored();
         digestChangesNothing();
         lastOf512Calls();
+        objectsKnowNothingOfEachOther();
         Due.finish();
     }
 
@@ -262,5 +263,28 @@ public final class StateEdgesTest {
             }
         }
         Due.is("call 512", y.minimum(255, 16383), 7);
+    }
+
+    /** A new object is empty, whatever others hold, and what they do leaves it as it is. */
+    private static void objectsKnowNothingOfEachOther() {
+        SegmentTimes first = Edge.rich();
+        SegmentTimes second = new SegmentTimes();
+        long rich = first.digest();
+        long empty = second.digest();
+        SegmentTimes third = Edge.full();
+        Due.is("digest() of the first beside a third", first.digest(), rich);
+        Due.is("digest() of the second beside a third", second.digest(), empty);
+        Due.thrown("undo() of the second", Due.STATE, () -> second.undo());
+        Due.thrown("rollBack() of the second", Due.STATE, () -> second.rollBack());
+        Due.is("carryOut() of the second", second.carryOut(), 0);
+        Due.is("pieces of the first", first.pieces(5), Edge.rich().pieces(5));
+        Due.is("pieces of the second", second.pieces(5), 1);
+        Due.is("a piece of the first", first.piece(5, 1, 0), 21);
+        third.forget();
+        third.rollBack();
+        Due.is("undo() of the first", first.undo(), 3);
+        Due.is("its tick", first.now(), 3);
+        Due.is("its answer", first.answer(0, 0), 5);
+        Due.is("the third goes on", third.now(), 1);
     }
 }
